@@ -211,8 +211,9 @@ public final class SunMirrors {
             return BAD_TEXT;
         }
         history.note(field);
+        int orders = reader.orders();
         int carried = 0;
-        while (carried < reader.orders() && carry(carried) >= 0) {
+        while (carried < orders && carry(carried) >= 0) {
             carried++;
         }
         pad.empty();

@@ -101,7 +101,7 @@ final class TextsTest {
         for (String text : early) {
             Check.due(text, faultOf(text), text.length());
         }
-        String[] wrongs = {"!", "X1", "0", ";", "1", ">", ".", "y1", "b1", "+a1", "+.1", "+-1", "x;", "xx", "x-1",
+        String[] wrongs = {"!", "X1", "0", ";", "1", ">", ".", "y1", "b1", "+a1", "+.1", "+-1", "x:", "x/", "+:.1", "+/", "a:>1", "a/", "x;", "xx", "x-1",
             "a>1", "w;", "v;", "tt", "++", "~"};
         for (String text : wrongs) {
             Check.due(text, faultOf(text), text.startsWith("x") || text.startsWith("a") || text.startsWith("w")
@@ -112,7 +112,8 @@ final class TextsTest {
             {"+1.1a1a1", 6}, {"+1.1>1", 4}, {"+1.1x", 4}, {"+1a1", 2}, {"+1;", 2}, {"a1>4", 3}, {"a1>9", 3},
             {"a1>11", 4}, {"a1>0;x", 6}, {"a100>1", 3}, {"a1.1", 2}, {"a1;", 2}, {"a1>;", 3}, {"x1x1", 2},
             {"x1a1", 2}, {"x1>1", 2}, {"w1a1", 2}, {"v1.1", 2}, {"t1 1", 2}, {"x1;;x1", 3}, {"x1;y", 3},
-            {"x1;x1;x1;+1.1a5", 14}, {"v99;v100", 7}, {"x1,x1", 2}, {"t1:", 2}, {"t1/", 2}, {"x1;1", 3}};
+            {"x1;x1;x1;+1.1a5", 14}, {"v99;v100", 7}, {"x1,x1", 2}, {"t1:", 2}, {"t1/", 2}, {"a1>/", 3},
+            {"a1>:", 3}, {"+1.1a/", 5}, {"+1./", 3}, {"+1.:", 3}, {"+1.1:", 4}, {"x1;1", 3}};
         for (Object[] due : later) {
             String text = ((String) due[0]).replace(' ', '!');
             Check.due(text, faultOf(text), (Integer) due[1]);
@@ -147,6 +148,11 @@ final class TextsTest {
         Check.due("carryOut() of one", x.carryOut(), 1);
         Check.due("aim point 0", x.of(3, 2), 0);
         Check.due("the text before is forgotten", x.count(1), 4);
+        Check.put(x, "v1;v2;v3");
+        Check.due("carryOut() of three", x.carryOut(), 3);
+        Check.put(x, "v4");
+        Check.due("carryOut() of one", x.carryOut(), 1);
+        Check.due("the text before is forgotten", x.count(2), 4);
     }
 
     private static void promise21FirstError() {

@@ -7,6 +7,7 @@ final class WhatIfTest {
         promise14WorthLeast();
         promise14Blocker();
         promise14LookingAway();
+        promise14AfterOthers();
         promise15BestColumn();
         promise15Full();
         promise15Limit();
@@ -14,6 +15,7 @@ final class WhatIfTest {
         promise16ToWash();
         promise16Limit();
         promise17LeastLimit();
+        promise17EachHour();
         Check.end("WhatIfTest");
     }
 
@@ -65,6 +67,19 @@ final class WhatIfTest {
         Check.due("count(5)", x.count(5), 360 + 360 + 2 * (10 + 20 + 30));
         Check.due("worthLeast(0)", x.worthLeast(0), 1);
         Check.due("worthLeast(1)", x.worthLeast(1), 720);
+    }
+
+    /** Nothing of a question before is left. */
+    private static void promise14AfterOthers() {
+        SunMirrors x = new SunMirrors();
+        Check.due("bestColumn(0, 0, 1)", x.bestColumn(0, 0, 1), 360);
+        Check.due("without mirrors: worthLeast(0)", x.worthLeast(0), SunMirrors.NONE);
+        Check.due("without mirrors: worthLeast(1)", x.worthLeast(1), SunMirrors.NONE);
+        Check.due("without mirrors: toWash()", x.toWash(), SunMirrors.NONE);
+        x.mirror(19, 0, 0);
+        Check.due("bestColumn(0, 0, 1)", x.bestColumn(0, 0, 1), 540);
+        Check.due("toWash()", x.toWash(), 0);
+        Check.due("worthLeast(1)", x.worthLeast(1), 0);
     }
 
     private static void promise15BestColumn() {
@@ -196,5 +211,26 @@ final class WhatIfTest {
         Check.due("by 1199 one looks away", y.point(0, 5, 2), (1 << 19) - 1);
         y.set(SunMirrors.LIMIT, 1200);
         Check.due("by 1200 none does", y.point(0, 5, 2), (1 << 20) - 1);
+    }
+
+    /** A row of mirrors full of dust shades one behind it in all hours but one: the day brings what that hour does. */
+    private static void promise17EachHour() {
+        int[] gives = {6, 13, 20, 26, 33, 40, 33, 26, 20, 13, 6};
+        for (int free = 0; free <= 10; free++) {
+            SunMirrors x = new SunMirrors();
+            for (int hour = 0; hour <= 10; hour++) {
+                if (hour != free) {
+                    x.mirror(9, 8 + 5 - hour, 0);
+                }
+            }
+            x.set(SunMirrors.DUST, 20);
+            x.pass(5);
+            x.mirror(10, 8, 0);
+            Check.due("hour " + free + ": leastLimit()", x.leastLimit(), gives[free]);
+            Check.due("hour " + free + ": count(5)", x.count(5), gives[free]);
+            Check.due("hour " + free + ": the one that shades at noon", x.worthLeast(0), free > 5 ? 5 : 4);
+            Check.due("hour " + free + ": worthLeast(1)", x.worthLeast(1), gives[free] + (free == 5 ? 33 : 40));
+            Check.due("hour " + free + ": pass(1)", x.pass(1), gives[free]);
+        }
     }
 }

@@ -126,6 +126,13 @@ final class WhatThereIsTest {
                 }
             }
         }
+        SunMirrors z = new SunMirrors();
+        z.mirror(1, 5, 0);
+        Check.due("nobody stands in (0, 0)", z.at(0, 10, 0), 0);
+        z.mirror(0, 0, 0);
+        Check.due("somebody stands in (0, 0)", z.at(0, 10, 3), 1);
+        z.take(1);
+        Check.due("nobody stands in (0, 0) any more", z.at(0, 10, 0), 0);
         SunMirrors y = new SunMirrors();
         y.mirror(0, 18, 0);
         y.mirror(2, 0, 0);
