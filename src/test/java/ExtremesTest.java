@@ -18,7 +18,7 @@ final class ExtremesTest {
                 }
             }
             for (int shift = 0; shift < 64; shift++) {
-                SunMirrors x = object(state);
+                Recorded x = object(state);
                 answered("put", x.put(1L << shift), -4);
                 answered("put", x.put(-1L << shift), -4);
                 answered("put", x.put(-1L >>> shift), -4);
@@ -32,8 +32,8 @@ final class ExtremesTest {
     }
 
     /** An empty object, one of some mirrors, a full one, and a full one at its last day with a full pad. */
-    private static SunMirrors object(int state) {
-        SunMirrors x = new SunMirrors();
+    private static Recorded object(int state) {
+        Recorded x = new Recorded();
         int mirrors = state == 0 ? 0 : state == 1 ? 5 : 24;
         for (int number = 0; number < mirrors; number++) {
             x.mirror(number % 6 * 3, 9 + number / 6, number % 4);
@@ -57,7 +57,7 @@ final class ExtremesTest {
     }
 
     private static void oneArgument(int state, int a) {
-        SunMirrors x = object(state);
+        Recorded x = object(state);
         answered("take", x.take(a), -1);
         answered("wash", x.wash(a), -1);
         answered("wind", x.wind(a), -2);
@@ -73,23 +73,20 @@ final class ExtremesTest {
         answered("wipe", x.wipe(), 0);
     }
 
-    private static SunMirrors of = null;
+    private static Recorded of = null;
     private static int ofState = -1;
-    private static int ofCalls = 0;
 
     /** The object of a state, made anew before it has had 512 calls. */
-    private static SunMirrors usedObject(int state) {
-        if (of == null || ofState != state || ofCalls > 400) {
+    private static Recorded usedObject(int state) {
+        if (of == null || ofState != state || of.calls() > 500) {
             of = object(state);
             ofState = state;
-            ofCalls = 0;
         }
-        ofCalls += 4;
         return of;
     }
 
     private static void twoArguments(int state, int a, int b) {
-        SunMirrors x = usedObject(state);
+        Recorded x = usedObject(state);
         answered("set", x.set(a, b), -2);
         answered("aim", x.aim(a, b), -2);
         answered("of", x.of(a, b), -2);
@@ -97,7 +94,7 @@ final class ExtremesTest {
     }
 
     private static void threeArguments(int state, int a, int b, int c) {
-        SunMirrors x = usedObject(state);
+        Recorded x = usedObject(state);
         answered("mirror", x.mirror(a, b, c), -5);
         answered("at", x.at(a, b, c), -6);
         answered("point", x.point(a, b, c), -2);

@@ -54,10 +54,9 @@ final class FaceTest {
             }
         }
         Check.holds("the methods of the face: " + methods, methods.equals(new TreeSet<>(Arrays.asList(METHODS))));
-        for (Method method : type.getDeclaredMethods()) {
-            if (Modifier.isPrivate(method.getModifiers())) {
-                Check.holds(method.getName() + " bears no public name", !names.contains(method.getName()));
-            }
+        bearNoName(type, names);
+        for (Class<?> inside : type.getDeclaredClasses()) {
+            bearNoName(inside, names);
         }
         Constructor<?>[] constructors = type.getDeclaredConstructors();
         Check.holds("one public constructor", constructors.length == 1 && constructors[0].getParameterCount() == 0
@@ -67,6 +66,14 @@ final class FaceTest {
             open += Modifier.isPrivate(field.getModifiers()) ? 0 : 1;
         }
         Check.due("constants of the face", open, 9);
+    }
+
+    private static void bearNoName(Class<?> type, Set<String> names) {
+        for (Method method : type.getDeclaredMethods()) {
+            if (Modifier.isPrivate(method.getModifiers())) {
+                Check.holds(method + " bears no public name", !names.contains(method.getName()));
+            }
+        }
     }
 
     private static void classesInside() {

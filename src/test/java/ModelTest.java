@@ -1,10 +1,11 @@
 /** Long runs of calls, each on the program and on the model: they have to answer alike. */
 final class ModelTest {
-    private static final int RUNS = 150;
-    private static final int CALLS = 512;
+    private static final int RUNS = 200;
+    /** From then on an object is not used further: what comes next may take the calls up to the 512th. */
+    private static final int CALLS = 400;
 
     private final Numbers numbers;
-    private final SunMirrors program = new SunMirrors();
+    private final Recorded program = new Recorded();
     private final Model model = new Model();
     /** How wide the mirrors of this run stand: narrow ones shade and block one another more. */
     private final int width;
@@ -35,11 +36,11 @@ final class ModelTest {
     public static void main(String[] args) {
         for (int run = 1; run <= RUNS; run++) {
             ModelTest test = new ModelTest(run);
-            for (int call = 0; call < CALLS; call++) {
+            while (test.program.calls() < CALLS) {
                 test.call();
             }
         }
-        for (int run = 1; run <= RUNS; run++) {
+        for (int run = 1; run <= 2 * RUNS; run++) {
             new ModelTest(RUNS + run).texts();
         }
         Check.end("ModelTest");
@@ -215,7 +216,7 @@ final class ModelTest {
     /** Texts that are nearly right: one sign of a right one is changed, left out, or put in. */
     private void texts() {
         String signs = "+xawvt.;>0123456789a~!:/b";
-        for (int times = 0; times < 40; times++) {
+        while (program.calls() < CALLS) {
             StringBuilder text = new StringBuilder(orders(1 + numbers.below(12)));
             int changes = numbers.below(3);
             for (int change = 0; change < changes && text.length() > 0; change++) {
